@@ -1180,9 +1180,8 @@ public final class PotentialBench {
                 digits[by + i] = (int) (carry & MASK);
                 carry >>= BITS;
             }
-            carry += digits[by + width];
-            digits[by + width] = (int) (carry & MASK);
-            return carry;
+            // the highest digit is not looked at again
+            return carry + digits[by + width];
         }
 
         private void room(int most) {

@@ -41,11 +41,36 @@ public final class BoundTest {
         // of another variable the branch that needs more counts
         Check.function(x, 2, 3, 0, 5, 0, 1, 5, 1, 1);
         found(x, 3, 30, 38, 0, 6, 0);
+        x.cut(3, 0);
+        Check.words(x, 3, 3, 0, 5, 1, 1, 5, 0, 1);
+        found(x, 3, 30, 38, 0, 6, 0);
+        // of the variable that is looked at, what is needed of its rest and of itself
+        x.cut(2, 0);
+        Check.words(x, 2, 3, 0, 0, 6, 5, 0, 1, 5, 1, 0);
+        found(x, 2, 31, 41, 9, 0);
+        // what a variable has to bring when it is given
+        x.cut(2, 0);
+        Check.words(x, 2, 1, 0);
+        x.cut(3, 0);
+        Check.words(x, 3, 6, 5, 2, 1, 5, 0, 2);
+        found(x, 3, 24, 27, 0, 3, 0);
+        // the parts of "then" have variables of the same number
+        x.cut(3, 0);
+        Check.words(x, 3, 6, 6, 1, 0, 1, 2, 5, 0, 2);
+        found(x, 3, 23, 24, 3, 0, 0);
+        x.cut(3, 0);
+        Check.words(x, 3, 6, 6, 1, 0, 6, 5, 0, 2, 0, 5, 1, 2);
+        found(x, 3, 24, 27, 3, 0, 0);
+        x.cut(3, 0);
+        Check.words(x, 3, 6, 6, 1, 0, 6, 5, 0, 2, 1, 1, 5, 1, 2);
+        found(x, 3, 24, 27, 3, 6, 0);
     }
 
     private static void leastFirst() {
         // 7 for one element, or besides: the least q(f, 0), and then p
         found(Check.bench(1, 3, 0, 0, 4, 7, 0), 0, 6, 5, 0, 7);
+        // half of it for each of two elements is a lesser sum than all besides
+        found(Check.bench(1, 3, 0, 0, 3, 1, 0, 4, 6, 0), 0, 8, 8, 3, 0);
         // pairs: the least q(f, 0), so q(f, 1)
         found(Check.bench(2, 3, 0, 0, 3, 1, 0, 4, 5, 5, 0, 2, 3), 0, 12, 16, 0, 5, 0);
         found(Check.bench(3, 3, 0, 0, 3, 2, 0, 4, 5, 5, 0, 3, 1, 4), 0, 15, 21, 0, 0, 5, 0);
@@ -90,6 +115,21 @@ public final class BoundTest {
         Check.due("1000 thirds, covers", x.covers(1, 9, 9, 334), 0);
         Check.due("1000 thirds, covers", x.covers(3, 9, 9, 1000), 1);
         Check.due("1000 thirds, covers", x.covers(3, 9, 9, 1001), 0);
+        // as deep as it goes: 14 elements are taken off
+        x = new PotentialBench();
+        x.function(1);
+        for (int i = 0; i < 14; i++) {
+            Check.words(x, 0, 3, i, 0);
+        }
+        Check.words(x, 0, 4, 1, 5, 0, 14);
+        Check.due("a fourteenth, bound", x.bound(0), 1);
+        Check.due("a fourteenth, unknowns", x.told(0), 33);
+        Check.due("a fourteenth, conditions", x.told(1), 47);
+        Check.due("a fourteenth, q", x.scaled(0, 40), (1L << 40) / 14);
+        Check.due("a fourteenth, p", x.scaled(3, 40), 0);
+        x.cut(0, 42);
+        Check.words(x, 0, 3, 14, 0, 1, 15);
+        found(x, 0, 34, 47, 0, 0);
     }
 
     private static void none() {
@@ -124,6 +164,14 @@ public final class BoundTest {
         Check.function(x, 0, 6, 5, 0, 4, 2, 5, 0);
         found(x, 1, 8, 8, 18);
         found(x, 0, 8, 8, 8);
+        // what comes after a call that never gives anything is not paid, but what it needs itself is
+        x = Check.bench(0, 5, 0);
+        Check.function(x, 0, 6, 5, 0, 4, 9, 0);
+        found(x, 1, 8, 8, 0);
+        x.cut(1, 0);
+        Check.words(x, 1, 4, 5, 5, 0);
+        Check.function(x, 0, 5, 1);
+        found(x, 2, 12, 12, 5);
         // a list that is handed over twice brings both
         x = Check.bench(3, 3, 0, 3, 1, 0, 4, 3, 5, 0, 0, 3, 2, 4, 5, 5, 0, 3, 1, 2);
         found(x, 0, 16, 24, 5, 3, 0, 0);
@@ -146,7 +194,36 @@ public final class BoundTest {
         int most = Integer.MAX_VALUE;
         Check.due("tower, covers", x.covers(most, 0, 0, 17303000L * most), 1);
         Check.due("tower, covers", x.covers(most, most, most, 17303000L * most + 1), 0);
-        Check.due("tower, run", x.run(3, 0, 0, 0), 0);
+        x = tallTower();
+        Check.due("tall tower, bound", x.bound(3), 1);
+        Check.due("tall tower, unknowns", x.told(0), 40);
+        Check.due("tall tower, conditions", x.told(1), 68);
+        long q = 14000L * 92 * 92 * 92;
+        for (int k = 0; k <= 40; k++) {
+            Check.due("tall tower, scaled " + k, x.scaled(0, k), q << k);
+        }
+        Check.due("tall tower, covers", x.covers(1, 0, 0, q), 1);
+        Check.due("tall tower, covers", x.covers(1, 0, 0, q + 1), 0);
+        Check.due("tall tower, covers the most", x.covers(most, 0, 0, Long.MAX_VALUE), 1);
+        Check.due("tall tower, covers the least", x.covers(most, 0, 0, Long.MIN_VALUE), 1);
+        Check.due("tall tower, not the most", x.covers(most / 4, 0, 0, Long.MAX_VALUE), 0);
+    }
+
+    /** Functions of which each calls the one before four times with 23 elements for each of its own. */
+    private static PotentialBench tallTower() {
+        PotentialBench x = Check.bench(1, 3, 0, 0);
+        for (int i = 0; i < 14; i++) {
+            Check.words(x, 0, 4, 1000);
+        }
+        Check.words(x, 0, 5, 0, 1);
+        for (int f = 1; f <= 3; f++) {
+            Check.function(x, 1, 3, 0, 0, 6, 6, 2, 2, 2, 2, 2, 2, 2, 2, 2, 2, 2, 2, 0, 2, 2, 2, 2, 2, 2, 2, 2, 2, 2, 2, 1, 2);
+            for (int i = 0; i < 4; i++) {
+                Check.words(x, f, 6, 5, f - 1, 2);
+            }
+            Check.words(x, f, 5, f, 1);
+        }
+        return x;
     }
 
     /** Functions of which each calls the one before with 11 elements for each of its own. */
@@ -314,6 +391,11 @@ public final class BoundTest {
         found(x, 0, 3, 1, 9);
         Check.due("lists that it does not take bring nothing", x.covers(5, 5, 5, 9), 1);
         Check.due("lists that it does not take bring nothing", x.covers(5, 5, 5, 10), 0);
+        negativeLengths(x);
+        x = Check.bench(3, 3, 0, 0, 3, 2, 0, 4, 5, 5, 0, 3, 1, 4);
+        found(x, 0, 15, 21, 0, 0, 5, 0);
+        Check.due("covers with the third list", x.covers(9, 9, 2, 10), 1);
+        Check.due("covers with the third list", x.covers(9, 9, 2, 11), 0);
         negativeLengths(x);
     }
 

@@ -470,6 +470,11 @@ final class Oracle {
             return new Fraction(up.multiply(o.under), under.multiply(o.up));
         }
 
+        /** Of a number that is not below 0. */
+        BigInteger floor() {
+            return up.divide(under);
+        }
+
         long scaled(int k) {
             return up.shiftLeft(k).divide(under).longValue();
         }

@@ -12,7 +12,7 @@ final class Programs {
     private int deepest;
     private int[] weights;
     private List<Integer> out;
-    private boolean isLargest;
+    private boolean isTall;
 
     Programs(long seed) {
         random = new Random(seed);
@@ -39,10 +39,7 @@ final class Programs {
 
     /** The words made; now and then with another one among them, or cut. */
     private int[] spoiled() {
-        int[] made = new int[out.size()];
-        for (int i = 0; i < made.length; i++) {
-            made[i] = out.get(i);
-        }
+        int[] made = made();
         if (random.nextInt(12) == 0) {
             made[random.nextInt(made.length)] = random.nextInt(9) - 1;
         }
@@ -50,6 +47,14 @@ final class Programs {
             made = Arrays.copyOf(made, random.nextInt(made.length + 2));
         }
         return made.length > 200 ? Arrays.copyOf(made, 200) : made;
+    }
+
+    private int[] made() {
+        int[] made = new int[out.size()];
+        for (int i = 0; i < made.length; i++) {
+            made[i] = out.get(i);
+        }
+        return made;
     }
 
     private void expression(int known, int depth) {
@@ -98,59 +103,66 @@ final class Programs {
         return random.nextInt(3) > 0 ? known - 1 - random.nextInt(Math.min(known, 2)) : random.nextInt(known);
     }
 
+    /** Each function takes elements off, pays, calls one before it for a list that it makes, and then itself. */
     void heavy() {
-        isLargest = random.nextInt(5) == 0;
-        int count = isLargest ? 4 : 2 + random.nextInt(3);
+        isTall = random.nextInt(4) == 0;
+        int count = isTall ? 4 : 2 + random.nextInt(3);
         takes = new int[count];
         words = new int[count][];
         for (int f = 0; f < count; f++) {
-            takes[f] = 1 + random.nextInt(!isLargest && random.nextInt(3) == 0 ? 2 : 1);
+            takes[f] = !isTall && random.nextInt(3) == 0 ? 2 : 1;
         }
         for (int f = 0; f < count; f++) {
             out = new ArrayList<>();
             heavyBody(f);
-            words[f] = new int[out.size()];
-            for (int i = 0; i < words[f].length; i++) {
-                words[f][i] = out.get(i);
-            }
+            words[f] = made();
         }
     }
 
-    /** Some elements are taken off, numbers are paid, functions before it are called for lists made here, and it again. */
     private void heavyBody(int f) {
         int known = takes[f];
         int rest = 0;
-        int depth = 1;
-        int taken = 1 + random.nextInt(isLargest || random.nextBoolean() ? 1 : 4);
+        int taken = 1 + random.nextInt(isTall ? 2 : 4);
         for (int i = 0; i < taken; i++) {
             out.addAll(List.of(3, rest, 0));
             rest = known++;
-            depth++;
         }
-        int paid = f == 0 ? 13 - taken : random.nextInt(isLargest ? 1 : 4);
+        int paid = f == 0 ? 14 - taken : random.nextInt(isTall ? 1 : 4);
         for (int i = 0; i < paid; i++) {
-            out.addAll(List.of(4, isLargest ? 990 + random.nextInt(11) : random.nextInt(1001)));
-            depth++;
+            out.addAll(List.of(4, isTall ? 990 + random.nextInt(11) : random.nextInt(1001)));
         }
-        if (f > 0 && (isLargest || random.nextInt(5) > 0)) {
-            int g = isLargest || random.nextInt(3) > 0 ? f - 1 : random.nextInt(f);
-            out.add(6);
-            depth++;
-            int longer = isLargest ? 15 - depth : random.nextInt(16 - depth);
-            for (int i = 0; i < longer; i++) {
-                out.add(2);
-            }
-            out.add(0);
-            out.addAll(List.of(6, 5, g));
-            depth++;
-            for (int i = 0; i < takes[g]; i++) {
-                out.add(known);
-            }
-            known += 2;
+        if (f > 0 && (isTall || random.nextInt(5) > 0)) {
+            known = heavyCalls(f, known, 15 - taken - paid);
         }
         out.addAll(List.of(5, f, rest));
         for (int i = 1; i < takes[f]; i++) {
             out.add(random.nextInt(3) > 0 ? i : random.nextInt(known));
+        }
+    }
+
+    /** Makes a list and hands it over; how many variables are known then. */
+    private int heavyCalls(int f, int known, int room) {
+        int g = isTall || random.nextInt(3) > 0 ? f - 1 : random.nextInt(f);
+        out.addAll(List.of(6, 6));
+        longer(room - 2);
+        out.add(0);
+        longer(Math.min(room - 2, 10));
+        out.addAll(List.of(1, known));
+        int list = known;
+        int calls = isTall ? 2 + random.nextInt(3) : 1;
+        for (int i = 0; i < calls; i++) {
+            out.addAll(List.of(6, 5, g));
+            for (int k = 0; k < takes[g]; k++) {
+                out.add(list);
+            }
+        }
+        return known + 1 + calls;
+    }
+
+    private void longer(int most) {
+        int count = isTall ? most - random.nextInt(2) : random.nextInt(most + 1);
+        for (int i = 0; i < count; i++) {
+            out.add(2);
         }
     }
 }

@@ -101,9 +101,14 @@ public final class RandomTest {
         for (int turn = 0; turn < 5; turn++) {
             int most = turn < 3 ? 10 : Integer.MAX_VALUE;
             int[] l = {random.nextInt(most), random.nextInt(most), random.nextInt(most)};
-            long reached = sum(best, l).scaled(0);
-            Check.due(seed + " covers", x.covers(l[0], l[1], l[2], reached), 1);
-            Check.due(seed + " covers", x.covers(l[0], l[1], l[2], reached + 1), 0);
+            BigInteger reached = sum(best, l).floor();
+            if (reached.bitLength() > 62) {
+                Check.due(seed + " covers the most", x.covers(l[0], l[1], l[2], Long.MAX_VALUE),
+                    reached.bitLength() > 63 ? 1 : 0);
+                continue;
+            }
+            Check.due(seed + " covers", x.covers(l[0], l[1], l[2], reached.longValue()), 1);
+            Check.due(seed + " covers", x.covers(l[0], l[1], l[2], reached.longValue() + 1), 0);
         }
     }
 

@@ -67,6 +67,22 @@ public final class RunTest {
         // the first part of "then" may make variables of the same number
         x = Check.bench(2, 6, 6, 2, 2, 1, 0, 3, 2, 0, 1, 3, 3, 2, 0, 1, 3);
         Check.run(x, "numbers again", x.run(0, 5, 0, 0), 0, 5, 9);
+        // as many variables as there can be, and a call with the last ones
+        x = new PotentialBench();
+        x.function(3);
+        for (int i = 0; i < 15; i++) {
+            Check.words(x, 0, 6, 1, i);
+        }
+        Check.words(x, 0, 1, 17);
+        Check.run(x, "18 variables", x.run(0, 5, 4, 7), 0, 7, 31);
+        x.cut(0, 45);
+        Check.words(x, 0, 1, 18);
+        Check.due("19 variables", x.look(), -1);
+        x.cut(0, 45);
+        Check.words(x, 0, 5, 1, 16, 17);
+        Check.function(x, 2, 3, 0, 4, 5, 0, 6, 5, 1, 2, 1, 1, 1);
+        Check.run(x, "18 variables and a call", x.run(0, 5, 4, 7), 5, 7, 31 + 4 * 4 + 3);
+        Check.due("18 variables, bound", x.bound(0), 1);
         // looking at a variable leaves it as it is
         x = Check.bench(1, 3, 0, 0, 3, 1, 1, 0, 1, 0);
         Check.run(x, "looked at", x.run(0, 6, 0, 0), 0, 6, 3);
@@ -90,7 +106,10 @@ public final class RunTest {
         // as deep as it goes: 14 nodes wait in each of 60 calls
         x = Check.bench(1, 3, 0, 0, 2, 2, 2, 2, 2, 2, 2, 2, 2, 2, 2, 2, 2, 2, 5, 0, 1);
         Check.run(x, "much waits", x.run(0, 59, 0, 0), 0, 59 * 14, 59 * 16 + 2);
-        Check.run(x, "much waits for nothing", x.run(0, 60, 0, 0), 0, NO, 60 * 16);
+        for (int i = 0; i < 3; i++) {
+            Check.run(x, "much waits for nothing", x.run(0, 60, 0, 0), 0, NO, 60 * 16);
+        }
+        Check.run(x, "and nothing waits any more", x.run(0, 1, 0, 0), 0, 14, 18);
     }
 
     private static void stepLimit() {

@@ -38,9 +38,15 @@ public final class WholeTest {
         PotentialBench.Whole z = whole(any());
         z.multiply(x, y);
         same("multiply", z, a.multiply(b));
-        z.copy(x);
+        z = whole(a);
         z.subtract(y);
         same("subtract", z, a.subtract(b));
+        z = new PotentialBench.Whole();
+        z.subtract(y);
+        same("subtract", z, b.negate());
+        z = new PotentialBench.Whole();
+        z.multiply(x, y);
+        same("multiply", z, a.multiply(b));
         z.copy(x);
         z.negate();
         same("negate", z, a.negate());
