@@ -320,26 +320,32 @@ final class Oracle {
         for (Sum condition : conditions) {
             rows.add(row(condition));
         }
-        Sum sum = new Sum();
-        for (int u = q[f]; u <= p[f]; u++) {
-            sum = sum.plus(u, 1);
-        }
-        Fraction[] best = new Fraction[takes[f] + 1];
-        Sum target = sum;
-        for (int stage = 0; stage <= takes[f] + 1; stage++) {
-            if (stage > 0) {
-                target = Sum.of(q[f] + stage - 1);
+        return best(rows, q[f], p[f]);
+    }
+
+    /** The unknowns first .. last with the least sum, of these the least first one, and so on; null if no row is met. */
+    static Fraction[] best(List<Fraction[]> conditions, int first, int last) {
+        List<Fraction[]> rows = new ArrayList<>(conditions);
+        int width = rows.get(0).length;
+        Fraction[] best = new Fraction[last - first + 1];
+        for (int stage = -1; stage < best.length; stage++) {
+            Fraction[] target = new Fraction[width];
+            for (int i = 0; i < width; i++) {
+                boolean isSought = stage < 0 ? i >= first && i <= last : i == first + stage;
+                target[i] = Fraction.of(isSought ? 1 : 0);
             }
-            Fraction least = least(rows, row(target));
+            Fraction least = least(rows, target);
             if (least == null) {
                 return null;
             }
-            if (stage > 0) {
-                best[stage - 1] = least;
+            if (stage >= 0) {
+                best[stage] = least;
             }
-            Fraction[] kept = row(new Sum().plus(target, -1));
-            kept[0] = least;
-            rows.add(kept);
+            for (int i = 0; i < width; i++) {
+                target[i] = target[i].negate();
+            }
+            target[0] = least;
+            rows.add(target);
         }
         return best;
     }
