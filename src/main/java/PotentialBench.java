@@ -964,7 +964,6 @@ public final class PotentialBench {
 
         void set(long value) {
             sign = Long.compare(value, 0);
-            size = 0;
             // the lowest long is its own negative, and as bits without a sign the right amount
             long amount = value < 0 ? -value : value;
             for (int i = 0; i < DIGITS_OF_LONG; i++) {
@@ -1031,7 +1030,9 @@ public final class PotentialBench {
         void multiply(Whole x, Whole y) {
             int most = x.size + y.size;
             room(most);
-            Arrays.fill(digits, 0, most, 0);
+            for (int i = 0; i < most; i++) {
+                digits[i] = 0;
+            }
             for (int i = 0; i < x.size; i++) {
                 long carry = 0;
                 for (int j = 0; j < y.size; j++) {
