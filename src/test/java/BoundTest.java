@@ -194,7 +194,7 @@ public final class BoundTest {
         int most = Integer.MAX_VALUE;
         Check.due("tower, covers", x.covers(most, 0, 0, 17303000L * most), 1);
         Check.due("tower, covers", x.covers(most, most, most, 17303000L * most + 1), 0);
-        x = tallTower();
+        x = Towers.tall();
         Check.due("tall tower, bound", x.bound(3), 1);
         Check.due("tall tower, unknowns", x.told(0), 40);
         Check.due("tall tower, conditions", x.told(1), 68);
@@ -207,23 +207,6 @@ public final class BoundTest {
         Check.due("tall tower, covers the most", x.covers(most, 0, 0, Long.MAX_VALUE), 1);
         Check.due("tall tower, covers the least", x.covers(most, 0, 0, Long.MIN_VALUE), 1);
         Check.due("tall tower, not the most", x.covers(most / 4, 0, 0, Long.MAX_VALUE), 0);
-    }
-
-    /** Functions of which each calls the one before four times with 23 elements for each of its own. */
-    private static PotentialBench tallTower() {
-        PotentialBench x = Check.bench(1, 3, 0, 0);
-        for (int i = 0; i < 14; i++) {
-            Check.words(x, 0, 4, 1000);
-        }
-        Check.words(x, 0, 5, 0, 1);
-        for (int f = 1; f <= 3; f++) {
-            Check.function(x, 1, 3, 0, 0, 6, 6, 2, 2, 2, 2, 2, 2, 2, 2, 2, 2, 2, 2, 0, 2, 2, 2, 2, 2, 2, 2, 2, 2, 2, 2, 1, 2);
-            for (int i = 0; i < 4; i++) {
-                Check.words(x, f, 6, 5, f - 1, 2);
-            }
-            Check.words(x, f, 5, f, 1);
-        }
-        return x;
     }
 
     /** Functions of which each calls the one before with 11 elements for each of its own. */

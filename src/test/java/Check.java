@@ -1,9 +1,32 @@
+import java.util.ArrayList;
+import java.util.List;
+
 /** Counts answers that are not as due, and prints them. */
 final class Check {
     private static int wrong = 0;
     private static int all = 0;
+    private static int allBefore = 0;
+    private static final List<String> SAID = new ArrayList<>();
 
     private Check() {
+    }
+
+    /** What comes next looks at these words of the document. */
+    static void says(String words) {
+        looked();
+        SAID.add(words);
+        allBefore = all;
+    }
+
+    static List<String> said() {
+        return SAID;
+    }
+
+    private static void looked() {
+        if (!SAID.isEmpty() && all == allBefore) {
+            wrong++;
+            System.out.println("nothing looks at: " + SAID.get(SAID.size() - 1));
+        }
     }
 
     static void due(String call, long got, long want) {
@@ -11,7 +34,8 @@ final class Check {
         if (got != want) {
             wrong++;
             if (wrong <= 50) {
-                System.out.println(call + " answered " + got + ", due is " + want);
+                String sentence = SAID.isEmpty() ? "" : "\"" + SAID.get(SAID.size() - 1) + "\": ";
+                System.out.println(sentence + call + " answered " + got + ", due is " + want);
             }
         }
     }
@@ -33,6 +57,12 @@ final class Check {
         }
     }
 
+    /** Another body for a function. */
+    static void body(PotentialBench x, int f, int... words) {
+        x.cut(f, 0);
+        words(x, f, words);
+    }
+
     /** An object with one function. */
     static PotentialBench bench(int takes, int... words) {
         PotentialBench x = new PotentialBench();
@@ -48,6 +78,7 @@ final class Check {
     }
 
     static void end(String name) {
+        looked();
         System.out.println(name + ": " + all + " answers, " + wrong + " not as due");
         if (wrong != 0) {
             System.exit(1);
