@@ -16,7 +16,7 @@ public final class SolverTest {
         int count = args.length > 0 ? Integer.parseInt(args[0]) : 4000;
         for (int seed = 1; seed <= count; seed++) {
             Random random = new Random(seed);
-            boolean isWide = seed % 20 == 0;
+            boolean isWide = seed % 5 == 0;
             int unknowns = 4 + random.nextInt(isWide ? 9 : 5);
             int conditions = 1 + random.nextInt(isWide ? 20 : 10);
             compare(random, seed, unknowns, conditions, isWide ? 10000 : 1 + random.nextInt(6));

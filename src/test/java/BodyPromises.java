@@ -144,6 +144,16 @@ final class BodyPromises {
         Check.due("what was cut does not come back", x.word(0, 4), 1);
         Check.due("look", x.look(), -1);
         Check.due("place", x.place(), 1);
+        // behind the words that stay may have been any: they are not looked at
+        int[] ends = {LEAST, -1, 7, 200, MOST};
+        for (int word : ends) {
+            x = Check.bench(1, Bodies.of(3, 0, 1, 0, 4, 2, 5, 0, 1, Bodies.times(5, word)));
+            Check.due("cut to 9", x.cut(0, 9), true);
+            Check.due("look", x.look(), 0);
+            Check.run(x, "run", x.run(0, 5, 0, 0), 10, 0, 17);
+            Bounds.best(x, 0, 2, 0);
+            Bounds.told(x, 7, 8);
+        }
         Check.says("false when there are not so many,");
         x = Check.bench(0, 4, 9, 0);
         int[] tooMany = {4, 5, 200, 201, MOST, -1, LEAST};

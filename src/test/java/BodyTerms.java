@@ -212,6 +212,12 @@ final class BodyTerms {
         PotentialBench x = Check.bench(3, Bodies.of(most, 1, 17));
         Check.run(x, "the 18th", x.run(0, 10, 11, 12), 0, 12, 31);
         Bodies.wrong(most.length + 1, 3, Bodies.of(most, 1, 18));
+        // the last ones are handed to a function that has variables of its own
+        x = Check.bench(3, Bodies.of(most, 5, 1, 16, 17));
+        Check.function(x, 2, 3, 0, 4, 5, 1, 1, 6, 5, 1, 2, 1, 1, 3);
+        Check.run(x, "the 18th is handed over", x.run(0, 9, 3, 2), 5, 2, 31 + 3 * 4 + 3);
+        Check.due("the 18th is handed over, bound", x.bound(0), 1);
+        Bounds.told(x, 6 + 1 + 5 + 2 + 1 + 1, 4 + 3 + 3 + 3 + 2 + 3);
     }
 
     private static void known() {

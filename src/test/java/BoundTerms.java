@@ -356,6 +356,19 @@ final class BoundTerms {
         return x;
     }
 
+    /** 26 calls, each of which hands on what the one before gave, and a branch; so much is paid at first by each. */
+    private static PotentialBench largest(int paid, int paidToo) {
+        int[] one = {4, paid, 6, 5, 1, 1, 2, 3, 3, 5, 1, 0, 0};
+        for (int v = 4; v < 14; v++) {
+            one = Bodies.of(one, 6, 5, v % 2, v, 0, v % 2 == 0 ? body(0) : body());
+        }
+        int[] two = {4, paidToo};
+        for (int v = 1; v < 13; v++) {
+            two = Bodies.of(two, 6, 5, v % 2, v, 0, v % 2 == 0 ? body(0) : body());
+        }
+        return two(body(3, 2), Bodies.of(one, 5, 1, 14, 0), Bodies.of(two, 5, 0, 13, 0, 1));
+    }
+
     private static void mostConditions() {
         Check.says("and 90 conditions.");
         int[] call = {5, 1, 0};
@@ -384,8 +397,20 @@ final class BoundTerms {
         Bounds.full(two(body(2, 0, 0), other, Bodies.joined(14, none)), 2);
         // too many of both
         Bounds.full(two(body(3, 0, 3, 3), Bodies.joined(20, none), Bodies.joined(20, none)), 0);
+        // 40 and 90 at once, and each condition says something: as large as it gets
+        PotentialBench x = largest(0, 0);
+        fits(x, 40, 90);
+        Bounds.best(x, 0, 0, 0, 0, 0);
+        Bounds.best(x, 1, 0, 0, 0);
+        Check.body(x, 1, 1, 1);
+        fits(x, 27, 51);
+        // function 1 calls itself first and never ends, so that nothing else has to be paid but what comes before
+        x = largest(7, 0);
+        Bounds.best(x, 0, 0, 0, 0, 7);
+        Bounds.best(x, 1, 0, 0, 0);
+        Bounds.none(largest(0, 7), 1, 40, 90);
         // and there is room again
-        PotentialBench x = two(body(1, 0, 0), Bodies.joined(14, none), calls15);
+        x = two(body(1, 0, 0), Bodies.joined(14, none), calls15);
         Bounds.full(x, 0);
         Check.body(x, 1, 0);
         fits(x, 24, 46);

@@ -134,15 +134,15 @@ public final class BoundTest {
 
     private static void none() {
         PotentialBench x = Check.bench(1, 4, 1, 5, 0, 0);
-        none(x, 0, 5, 5);
+        Bounds.none(x, 0, 5, 5);
         // the same without cost has bounds
         found(Check.bench(1, 4, 0, 5, 0, 0), 0, 5, 5, 0, 0);
         // a square: a list is gone through again for each of its elements
         x = Check.bench(1, 3, 0, 0, 4, 1, 5, 0, 1);
         Check.function(x, 1, 3, 0, 0, 6, 5, 0, 1, 5, 1, 1);
-        none(x, 1, 15, 19);
+        Bounds.none(x, 1, 15, 19);
         // there are no bounds of one function where another has none
-        none(x, 0, 15, 19);
+        Bounds.none(x, 0, 15, 19);
         x.cut(1, 3);
         x.word(1, 0);
         Check.due("all have bounds now", x.bound(0), 1);
@@ -237,10 +237,10 @@ public final class BoundTest {
         found(x, 0, 40, 40, 0, 0, 0, 0);
         x.cut(0, 24);
         Check.words(x, 0, 5, 0, 0, 0, 0);
-        full(x, "41 unknowns, a call");
+        Bounds.full(x, 0);
         x.cut(0, 24);
         Check.words(x, 0, 3, 0, 0, 0);
-        full(x, "42 unknowns, a branch");
+        Bounds.full(x, 0);
         x.cut(0, 18);
         x.word(0, 0);
         found(x, 0, 36, 34, 0, 0, 0, 0);
@@ -252,7 +252,7 @@ public final class BoundTest {
         found(x, 0, 40, 42, 0, 0, 0, 0);
         x.cut(1, 0);
         Check.words(x, 1, 3, 0, 1, 1, 1, 2);
-        full(x, "41 unknowns, a variable");
+        Bounds.full(x, 0);
 
         // 28 calls are 84 conditions
         calls(3, 1, 14, 14, 38, 90);
@@ -268,7 +268,7 @@ public final class BoundTest {
             }
             x.word(f, 0);
         }
-        full(x, "far too many");
+        Bounds.full(x, 0);
     }
 
     private static void calls(int takes, int takesToo, int count, int countToo, int unknowns, int conditions) {
@@ -286,7 +286,7 @@ public final class BoundTest {
             }
         }
         if (conditions == FULL) {
-            full(x, count + " and " + countToo + " calls");
+            Bounds.full(x, 0);
         } else {
             Check.due("calls, bound", x.bound(1), 1);
             Check.due("calls, unknowns", x.told(0), unknowns);
@@ -333,16 +333,16 @@ public final class BoundTest {
         Check.due("a run is no bound", x.run(1, 0, 0, 0), BAD);
         Check.due("stays, conditions", x.told(1), 9);
         Check.due("BAD", x.bound(0), BAD);
-        nothing(x, "after BAD");
+        Bounds.nothing(x, "after BAD");
         Check.words(x, 0, 3, 0, 0, 4, 3, 5, 0, 1);
         x.word(2, 0);
         found(x, 0, 16, 13, 3, 0);
         Check.due("no such function", x.bound(3), BAD);
-        nothing(x, "after no such function");
+        Bounds.nothing(x, "after no such function");
         found(x, 0, 16, 13, 3, 0);
         x.cut(1, 2);
         Check.words(x, 1, 5, 1);
-        none(x, 0, 17, 16);
+        Bounds.none(x, 0, 17, 16);
         x.cut(1, 2);
         x.word(1, 0);
         found(x, 0, 16, 13, 3, 0);
@@ -354,7 +354,7 @@ public final class BoundTest {
         found(x, 0, 40, 49, 3, 0);
         x.cut(1, 2);
         Check.words(x, 1, 5, 1);
-        full(x, "after a found one");
+        Bounds.full(x, 0);
     }
 
     private static void coversEdges() {
@@ -402,33 +402,5 @@ public final class BoundTest {
         }
         Check.due(name + "p(f)", x.scaled(3, 0), best[best.length - 1]);
         Check.due(name + "p(f) * 2^40", x.scaled(3, 40), best[best.length - 1] << 40);
-    }
-
-    private static void none(PotentialBench x, int f, int unknowns, int conditions) {
-        String name = unknowns + " and " + conditions + ", ";
-        Check.due(name + "bound", x.bound(f), 0);
-        Check.due(name + "unknowns", x.told(0), unknowns);
-        Check.due(name + "conditions", x.told(1), conditions);
-        noBest(x, name);
-    }
-
-    private static void full(PotentialBench x, String name) {
-        Check.due(name + ", look", x.look(), 0);
-        Check.due(name + ", bound", x.bound(0), FULL);
-        nothing(x, name);
-    }
-
-    private static void nothing(PotentialBench x, String name) {
-        Check.due(name + ", unknowns", x.told(0), NO);
-        Check.due(name + ", conditions", x.told(1), NO);
-        noBest(x, name);
-    }
-
-    private static void noBest(PotentialBench x, String name) {
-        for (int i = 0; i <= 3; i++) {
-            Check.due(name + ", scaled " + i, x.scaled(i, 0), NO);
-        }
-        Check.due(name + ", covers", x.covers(0, 0, 0, 0), NO);
-        Check.due(name + ", covers", x.covers(1, 1, 1, -1), NO);
     }
 }

@@ -1,3 +1,5 @@
+import java.util.Arrays;
+
 /** Looks whether bounds, and what is told of them, are as due. */
 final class Bounds {
     private static final int NO = PotentialBench.NO;
@@ -26,7 +28,7 @@ final class Bounds {
     /** How many unknowns and conditions one function with this body makes. */
     static void made(int unknowns, int conditions, int takes, int... body) {
         PotentialBench x = Check.bench(takes, body);
-        String name = java.util.Arrays.toString(body);
+        String name = Arrays.toString(body);
         Check.due(name + " look", x.look(), 0);
         int answer = x.bound(0);
         Check.due(name + " bound", answer == 0 || answer == 1, true);

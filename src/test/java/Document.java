@@ -20,14 +20,14 @@ final class Document {
             System.out.println("note: there is no document to compare with");
             return;
         }
-        String all = Files.readString(PLACE).replaceAll("\\s+", " ");
-        int from = all.indexOf("## Terms");
+        String all = Files.readString(PLACE).replaceAll("\\s+", " ").replaceAll("## The public face .* ## Terms", "");
+        int from = all.indexOf("An object is used");
         int to = all.indexOf("## Not promised");
         if (from < 0 || to < from) {
             System.out.println("note: the document has other parts now");
             return;
         }
-        Document document = new Document(all.substring(from + "## Terms".length(), to));
+        Document document = new Document(all.substring(from, to));
         quotes.forEach(document::quote);
         document.tellTheRest();
     }

@@ -15,86 +15,86 @@ public final class LookTest {
     }
 
     private static void oneBody() {
-        right(0, 0);
-        right(1, 1, 0);
-        right(3, 1, 2);
-        right(1, 2, 1, 0);
-        right(1, 3, 0, 0, 1, 1);
-        right(0, 4, 0, 0);
-        right(0, 4, 1000, 0);
-        right(0, 5, 0);
-        right(3, 5, 0, 2, 2, 0);
-        right(0, 6, 0, 1, 0);
-        right(1, 6, 1, 0, 1, 1);
+        Bodies.right(0, 0);
+        Bodies.right(1, 1, 0);
+        Bodies.right(3, 1, 2);
+        Bodies.right(1, 2, 1, 0);
+        Bodies.right(1, 3, 0, 0, 1, 1);
+        Bodies.right(0, 4, 0, 0);
+        Bodies.right(0, 4, 1000, 0);
+        Bodies.right(0, 5, 0);
+        Bodies.right(3, 5, 0, 2, 2, 0);
+        Bodies.right(0, 6, 0, 1, 0);
+        Bodies.right(1, 6, 1, 0, 1, 1);
         // a new variable has the next number, and is known in the second part alone
-        right(2, 3, 1, 1, 1, 3, 2, 1, 2, 1, 3);
-        right(1, 6, 6, 0, 1, 1, 6, 1, 1, 1, 2);
+        Bodies.right(2, 3, 1, 1, 1, 3, 2, 1, 2, 1, 3);
+        Bodies.right(1, 6, 6, 0, 1, 1, 6, 1, 1, 1, 2);
 
-        wrong(0, 0);
-        wrong(0, 0, -1);
-        wrong(0, 0, 7);
-        wrong(0, 0, Integer.MIN_VALUE);
-        wrong(0, 0, Integer.MAX_VALUE);
-        wrong(1, 0, 0, 0);
-        wrong(2, 1, 1, 0, 99);
-        wrong(1, 1, 1);
-        wrong(1, 0, 1, 0);
-        wrong(1, 1, 1, 1);
-        wrong(1, 1, 1, -1);
-        wrong(1, 0, 2);
-        wrong(1, 0, 2, 8);
-        wrong(1, 1, 3);
-        wrong(1, 1, 3, 1, 0, 0);
-        wrong(2, 1, 3, 0);
-        wrong(3, 1, 3, 0, 0);
-        wrong(3, 1, 3, 0, 1, 1, 1, 1);
-        wrong(5, 1, 3, 0, 1, 0, 1, 2);
-        wrong(6, 1, 3, 0, 1, 0, 1, 1, 0);
-        wrong(1, 0, 4);
-        wrong(1, 0, 4, -1, 0);
-        wrong(1, 0, 4, 1001, 0);
-        wrong(2, 0, 4, 5);
-        wrong(1, 0, 5);
-        wrong(1, 0, 5, 1);
-        wrong(1, 0, 5, -1);
-        wrong(2, 2, 5, 0);
-        wrong(3, 2, 5, 0, 1);
-        wrong(3, 2, 5, 0, 1, 2);
-        wrong(4, 2, 5, 0, 1, 1, 1);
-        wrong(2, 0, 5, 0, 0);
-        wrong(1, 0, 6);
-        wrong(2, 0, 6, 0);
-        wrong(2, 0, 6, 1, 0, 0);
-        wrong(3, 0, 6, 0, 1);
-        wrong(3, 0, 6, 0, 1, 1);
-        wrong(7, 1, 6, 6, 0, 1, 1, 6, 1, 2, 0, 0);
+        Bodies.wrong(0, 0);
+        Bodies.wrong(0, 0, -1);
+        Bodies.wrong(0, 0, 7);
+        Bodies.wrong(0, 0, Integer.MIN_VALUE);
+        Bodies.wrong(0, 0, Integer.MAX_VALUE);
+        Bodies.wrong(1, 0, 0, 0);
+        Bodies.wrong(2, 1, 1, 0, 99);
+        Bodies.wrong(1, 1, 1);
+        Bodies.wrong(1, 0, 1, 0);
+        Bodies.wrong(1, 1, 1, 1);
+        Bodies.wrong(1, 1, 1, -1);
+        Bodies.wrong(1, 0, 2);
+        Bodies.wrong(1, 0, 2, 8);
+        Bodies.wrong(1, 1, 3);
+        Bodies.wrong(1, 1, 3, 1, 0, 0);
+        Bodies.wrong(2, 1, 3, 0);
+        Bodies.wrong(3, 1, 3, 0, 0);
+        Bodies.wrong(3, 1, 3, 0, 1, 1, 1, 1);
+        Bodies.wrong(5, 1, 3, 0, 1, 0, 1, 2);
+        Bodies.wrong(6, 1, 3, 0, 1, 0, 1, 1, 0);
+        Bodies.wrong(1, 0, 4);
+        Bodies.wrong(1, 0, 4, -1, 0);
+        Bodies.wrong(1, 0, 4, 1001, 0);
+        Bodies.wrong(2, 0, 4, 5);
+        Bodies.wrong(1, 0, 5);
+        Bodies.wrong(1, 0, 5, 1);
+        Bodies.wrong(1, 0, 5, -1);
+        Bodies.wrong(2, 2, 5, 0);
+        Bodies.wrong(3, 2, 5, 0, 1);
+        Bodies.wrong(3, 2, 5, 0, 1, 2);
+        Bodies.wrong(4, 2, 5, 0, 1, 1, 1);
+        Bodies.wrong(2, 0, 5, 0, 0);
+        Bodies.wrong(1, 0, 6);
+        Bodies.wrong(2, 0, 6, 0);
+        Bodies.wrong(2, 0, 6, 1, 0, 0);
+        Bodies.wrong(3, 0, 6, 0, 1);
+        Bodies.wrong(3, 0, 6, 0, 1, 1);
+        Bodies.wrong(7, 1, 6, 6, 0, 1, 1, 6, 1, 2, 0, 0);
         // the first wrong word is told, not a later one
-        wrong(1, 1, 4, 2000, 9, 9, 9);
-        wrong(3, 1, 6, 1, 0, 9, 1, 7);
+        Bodies.wrong(1, 1, 4, 2000, 9, 9, 9);
+        Bodies.wrong(3, 1, 6, 1, 0, 9, 1, 7);
     }
 
     private static void limitsOfNodes() {
-        right(0, deep(16));
-        wrong(16, 0, deep(17));
-        wrong(16, 0, deep(40));
-        wrong(15, 0, Arrays.copyOf(deep(16), 15));
-        wrong(16, 0, Arrays.copyOf(deep(17), 16));
+        Bodies.right(0, Bodies.chain(16));
+        Bodies.wrong(16, 0, Bodies.chain(17));
+        Bodies.wrong(16, 0, Bodies.chain(40));
+        Bodies.wrong(15, 0, Arrays.copyOf(Bodies.chain(16), 15));
+        Bodies.wrong(16, 0, Arrays.copyOf(Bodies.chain(17), 16));
         // the second part of the 16th has no room either: 15 times "6 0", then a leaf, and one level more
         int[] then = new int[31];
         for (int i = 0; i < 15; i++) {
             then[2 * i] = 6;
         }
-        right(0, then);
+        Bodies.right(0, then);
         int[] deeper = Arrays.copyOf(then, 33);
         deeper[30] = 6;
-        wrong(31, 0, deeper);
+        Bodies.wrong(31, 0, deeper);
         // "6 e f" with both parts of so many nodes
-        right(0, join(6, nodes(19), nodes(20)));
-        wrong(40, 0, join(6, nodes(20), nodes(20)));
-        wrong(40, 0, join(6, nodes(20), nodes(25)));
-        wrong(40, 0, join(6, join(6, nodes(16), nodes(15)), join(6, nodes(7), nodes(9))));
+        Bodies.right(0, Bodies.of(6, nodes(19), nodes(20)));
+        Bodies.wrong(40, 0, Bodies.of(6, nodes(20), nodes(20)));
+        Bodies.wrong(40, 0, Bodies.of(6, nodes(20), nodes(25)));
+        Bodies.wrong(40, 0, Bodies.of(6, Bodies.of(6, nodes(16), nodes(15)), Bodies.of(6, nodes(7), nodes(9))));
         // a 41st node that is not there: words lack
-        wrong(40, 0, Arrays.copyOf(join(6, nodes(20), nodes(20)), 40));
+        Bodies.wrong(40, 0, Arrays.copyOf(Bodies.of(6, nodes(20), nodes(20)), 40));
         // with words that are no nodes between them
         int[] paid = new int[0];
         for (int i = 0; i < 13; i++) {
@@ -103,8 +103,8 @@ public final class LookTest {
             paid[paid.length - 1] = 1000;
         }
         int[] pays = Arrays.copyOf(paid, 27);
-        right(0, join(6, join(6, pays, join(6, nodes(10), new int[] {0})), nodes(12)));
-        wrong(53, 0, join(6, join(6, pays, join(6, nodes(11), new int[] {0})), nodes(12)));
+        Bodies.right(0, Bodies.of(6, Bodies.of(6, pays, Bodies.of(6, nodes(10), new int[] {0})), nodes(12)));
+        Bodies.wrong(53, 0, Bodies.of(6, Bodies.of(6, pays, Bodies.of(6, nodes(11), new int[] {0})), nodes(12)));
     }
 
     private static void severalBodies() {
@@ -161,37 +161,8 @@ public final class LookTest {
         Check.due("run and bound are no look", x.place(), NO);
     }
 
-    private static void right(int takes, int... words) {
-        PotentialBench x = Check.bench(takes, words);
-        Check.due(Arrays.toString(words) + " look", x.look(), 0);
-        Check.due(Arrays.toString(words) + " place", x.place(), NO);
-    }
-
-    private static void wrong(int place, int takes, int... words) {
-        PotentialBench x = Check.bench(takes, words);
-        Check.due(Arrays.toString(words) + " look", x.look(), -1);
-        Check.due(Arrays.toString(words) + " place", x.place(), place);
-        Check.due(Arrays.toString(words) + " run", x.run(0, 0, 0, 0), BAD);
-        Check.due(Arrays.toString(words) + " bound", x.bound(0), BAD);
-    }
-
-    /** An expression with so many nodes, each in the one before. */
-    private static int[] deep(int nodes) {
-        int[] words = new int[nodes];
-        Arrays.fill(words, 0, nodes - 1, 2);
-        return words;
-    }
-
     /** An expression with so many nodes, at most 14 deep. */
     private static int[] nodes(int count) {
-        return count <= 12 ? deep(count) : join(6, deep(10), nodes(count - 11));
-    }
-
-    private static int[] join(int kind, int[] e, int[] f) {
-        int[] words = new int[1 + e.length + f.length];
-        words[0] = kind;
-        System.arraycopy(e, 0, words, 1, e.length);
-        System.arraycopy(f, 0, words, 1 + e.length, f.length);
-        return words;
+        return count <= 12 ? Bodies.chain(count) : Bodies.of(6, Bodies.chain(10), nodes(count - 11));
     }
 }

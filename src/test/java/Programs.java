@@ -25,6 +25,12 @@ final class Programs {
         for (int f = 0; f < count; f++) {
             takes[f] = random.nextInt(4);
         }
+        otherBodies();
+    }
+
+    /** Bodies of any shape for the functions that there are. */
+    void otherBodies() {
+        int count = takes.length;
         weights = new int[] {1 + random.nextInt(3), 1 + random.nextInt(4), random.nextInt(8), random.nextInt(8),
             random.nextInt(6), 1 + random.nextInt(4), random.nextInt(5)};
         int nodes = 10 + random.nextInt(45);
