@@ -21,7 +21,6 @@ final class Programs {
     void anyShape() {
         int count = 1 + random.nextInt(4);
         takes = new int[count];
-        words = new int[count][];
         for (int f = 0; f < count; f++) {
             takes[f] = random.nextInt(4);
         }
@@ -31,6 +30,7 @@ final class Programs {
     /** Bodies of any shape for the functions that there are. */
     void otherBodies() {
         int count = takes.length;
+        words = new int[count][];
         weights = new int[] {1 + random.nextInt(3), 1 + random.nextInt(4), random.nextInt(8), random.nextInt(8),
             random.nextInt(6), 1 + random.nextInt(4), random.nextInt(5)};
         int nodes = 10 + random.nextInt(45);
