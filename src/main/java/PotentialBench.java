@@ -857,6 +857,10 @@ public final class PotentialBench {
 
         /** x becomes (x * pivot - y * z) / under, which leaves no rest. */
         private void put(Whole x, Whole y, Whole z) {
+            // most numbers of a table are 0 and stay so
+            if (x.sign() == 0 && (y.sign() == 0 || z.sign() == 0)) {
+                return;
+            }
             boolean areSmall = x.isSmall() && y.isSmall() && z.isSmall() && pivot.isSmall() && under.isSmall();
             if (areSmall && under.sign() != 0) {
                 x.set((x.small() * pivot.small() - y.small() * z.small()) / under.small());
